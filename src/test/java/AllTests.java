@@ -1,5 +1,9 @@
+import java.nio.file.Path;
+
 /** Runs every test of the project; its first argument is the path of OneSledgeForTwo.java. */
 public final class AllTests {
+    private static final int MODEL_RUNS = 1200;
+
     private AllTests() {
     }
 
@@ -12,6 +16,8 @@ public final class AllTests {
         AfternoonTests.run(t);
         ActTests.run(t);
         ImageTests.run(t);
+        ModelTests.run(t, MODEL_RUNS);
+        FaceTests.run(t, Path.of(args[0]));
         System.out.println(t.summary());
         if (t.failures() != 0) {
             System.exit(1);
