@@ -1046,10 +1046,9 @@ public final class OneSledgeForTwo {
     /** Plays by a RULE on a hill of its own. */
     private static final class Sharing {
         final Hill hill = new Hill();
-        /** Of TURNS: whether a LIFT takes a PULL's place, whose turn it is, whether he was asked for DOWN in it. */
+        /** Of TURNS: whether a LIFT takes a PULL's place, and whose turn it is. */
         boolean lifted;
         int turn;
-        boolean askedDown;
 
         /** From how it stands in truth, so many MOVES at most, with LIFTS for so many PENNIES (NONE: no LIFTS). */
         int play(Hill truth, int rule, int most, int lifts) {
@@ -1059,7 +1058,6 @@ public final class OneSledgeForTwo {
                 hill.pennies = lifts;
             }
             turn = 0;
-            askedDown = false;
             int made = 0;
             boolean goesOn = true;
             while (goesOn && made < most) {
@@ -1081,17 +1079,15 @@ public final class OneSledgeForTwo {
             return hill.mayBe(down) ? down : Hill.moveOf(PULL_BY_TWO, 0, 1);
         }
 
-        /** One more than all are asked, for the first may be asked only for the rest of his turn. */
+        /** The turn stays with one who goes DOWN: at the FOOT then, he is asked for nothing but a PULL. */
         private int inTurns() {
-            for (int asked = 0; asked <= hill.count; asked++) {
+            for (int asked = 0; asked < hill.count; asked++) {
                 int down = Hill.moveOf(DOWN, turn, 0);
-                if (!askedDown && hill.mayBe(down)) {
-                    askedDown = true;
-                    return down;
-                }
                 int pull = Hill.moveOf(PULL, turn, 0);
                 int lift = Hill.moveOf(LIFT, turn, 0);
-                askedDown = false;
+                if (hill.mayBe(down)) {
+                    return down;
+                }
                 turn = turn + 1 < hill.count ? turn + 1 : 0;
                 if (lifted && hill.mayBe(lift)) {
                     return lift;
@@ -1170,7 +1166,7 @@ public final class OneSledgeForTwo {
             look(this, 0, Math.min(depth, MOST_AHEAD), 0, 0);
         }
 
-        /** Looks at all rows that go on behind the first MOVES of the path, in their order: a later one must be better. */
+        /** Looks at all rows that go on behind the path's first MOVES, in their order: a later one must be better. */
         private static void look(Lookahead ahead, int at, int depth, int runs, int minutes) {
             if (at < 0 || at >= depth || depth > MOST_AHEAD) {
                 return;

@@ -88,6 +88,9 @@ final class FaceTests {
             t.holds("rule 11: fields of " + c.getName(), fields <= 20);
             for (Method m : c.getDeclaredMethods()) {
                 t.holds("rule 11: parameters of " + m.getName(), m.getParameterCount() <= 7);
+                for (String method : FACE) {
+                    t.holds("rule 1: not the name of a public one", !method.startsWith(m.getName() + " "));
+                }
             }
         }
     }

@@ -107,6 +107,14 @@ final class ImageTests {
         t.due("38: says of NOTHING", x.says(2, 0), -3);
         x.rider(4, 0);
         t.due("38: NOTHING though he is there again", x.holds(2), -1);
+        for (int s = 0; s < 8; s++) {
+            x.show(s, 1);
+        }
+        x.restore();
+        for (int s = 0; s < 8; s++) {
+            t.due("38: every SHELF: " + s, x.holds(s), -1);
+        }
+        x.rider(4, 0);
         x.image();
         x.show(5, 1);
         x.restore();

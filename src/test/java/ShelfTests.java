@@ -126,6 +126,11 @@ final class ShelfTests {
         t.due("5: behind the end", x.element(0, 3), 0);
         t.due("5: ahead of the beginning", x.element(0, -1), 0);
         t.due("5: of a RIDER", x.element(1, 0), 0);
+        Texts.put(x, 3, 4, 5);
+        x.show(3, 0);
+        t.due("5: of a RIDER in place of a ROW", x.element(3, 1), 0);
+        x.show(3, -1);
+        t.due("5: of NOTHING in place of a ROW", x.element(3, 0), 0);
         t.due("5: of NOTHING", x.element(2, 0), 0);
         t.due("5: of no SHELF", x.element(8, 0), 0);
         t.due("5: of no SHELF below", x.element(-1, 0), 0);
