@@ -313,10 +313,14 @@ final class HillTests {
         t.due("15: no RIDER to be at the TOP", Texts.hill(y, "top 0"), -6);
         t.due("15: its first digit", y.fault(), 4);
         StringBuilder rests = new StringBuilder("minutes 999");
-        while (rests.length() + 9 <= 160) {
-            rests.append(";move 700");
-        }
+        rests.append(";move 700".repeat(16));
         t.due("14: a long text", Texts.hill(y, rests.toString()), 17);
         t.due("14: sixteen RESTS", y.status(4), 999 - 16 * 5);
+        y = Texts.riders(0, 0);
+        String longest = "minutes 99" + ";move 700".repeat(16);
+        t.due("14: as long as a ROW can be", Texts.hill(y, longest + ";top 0"), 18);
+        t.due("14: its last ITEM", y.status(1), 1);
+        t.due("15: a FAULT at the last element", Texts.hill(y, longest + ";top 1"), -6);
+        t.due("15: it is there", y.fault(), 159);
     }
 }
