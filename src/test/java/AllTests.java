@@ -16,6 +16,12 @@ public final class AllTests {
         AfternoonTests.run(t);
         ActTests.run(t);
         ImageTests.run(t);
+        HillEdgeTests.run(t);
+        MoveEdgeTests.run(t);
+        RuleEdgeTests.run(t);
+        AfternoonEdgeTests.run(t);
+        ShelfEdgeTests.run(t);
+        RefusalTests.run(t);
         ModelTests.run(t, MODEL_RUNS);
         FaceTests.run(t, Path.of(args[0]));
         System.out.println(t.summary());
