@@ -126,6 +126,15 @@ final class AfternoonEdgeTests {
         s.call("set", 0, 3, 101);
         s.due(3, "behind", 0, 4, 0).due(55 - 5 - 2, "behind", 0, 4, 1).due(5, "behind", 0, 4, 2)
             .due(0, "behind", 0, 4, 3).due(-6, "behind", 0, 5, 3);
+        s = sentence("Behind it: of all: of as many RIDERS as there can be").plainRiders(4).row(0, 301, 101, 400);
+        s.due(2, "behind", 0, 3, 0).due(48, "behind", 0, 3, 1).due(8 * 2 + 3 * 4, "behind", 0, 3, 2);
+        s = sentence("Behind it: of all: of nobody").row(0, 700);
+        s.due(0, "behind", 0, 1, 0).due(55, "behind", 0, 1, 1).due(0, "behind", 0, 1, 2);
+        s = sentence("Behind it: of all: of none but those there are").plainRiders(1).row(0, 700);
+        s.call("image");
+        s.plainRiders(1);
+        s.call("move", 400);
+        s.due(4, "behind", 0, 1, 2).due(1, "restore").due(0, "behind", 0, 1, 2).due(0, "status", 8);
         s = rests(sentence("behind: -5 also another what"), 61);
         s.due(-5, "behind", 0, 1, -1).due(-5, "behind", 0, 1, 4).due(-5, "behind", 0, 1, Integer.MAX_VALUE)
             .due(-5, "behind", 0, 1, Integer.MIN_VALUE).due(-5, "behind", 0, 61, 4).due(-4, "behind", 0, -1, 4)

@@ -393,11 +393,13 @@ final class MoveEdgeTests {
         s.call("sledges", 0, 1);
         s.call("tell", 0, 0, 1);
         ahead(s, 1, 1, 0);
-        // nothing that could be brings a RUN now, however few minutes it takes
+        // nothing that could be brings a RUN now, however few minutes it takes: WALK up one
         s.call("sledges", 0, 0);
         s.call("ask", 2, 1);
-        ahead(s, 3, 0);
         s.call("tell", 0, 0, 0);
+        s.due(1, "takes", 400).due(-5, "ahead", 3, 0);
+        ahead(s, 3, 0);
+        s.call("tell", 0, 0, 1);
         ahead(s, 3, 0);
         s.call("ask", 0, 0);
         ahead(s, 1, 0);

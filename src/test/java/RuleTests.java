@@ -31,23 +31,34 @@ final class RuleTests {
         }
     }
 
-    /** MOVES that goes() makes one by one, told by who comes where. */
+    /** MOVES that goes() makes, told by how all stands behind them and behind the same made one by one. */
     private static void goesBy(Tally t, OneSledgeForTwo x, int rule, int n, int... due) {
         x.image();
         int made = x.goes(rule, n);
         t.due("31: goes(" + rule + ", " + n + ")", made, due.length);
-        int[] behind = new int[7];
-        for (int i = 0; i < 7; i++) {
-            behind[i] = x.status(1 + i);
-        }
+        int[] behind = standing(x);
         x.restore();
         for (int move : due) {
             t.holds("31: " + move + " MAY be by RULE " + rule, x.move(move) >= 0);
         }
-        for (int i = 0; i < 7; i++) {
-            t.due("31: status(" + (1 + i) + ") by RULE " + rule, behind[i], x.status(1 + i));
+        int[] oneByOne = standing(x);
+        for (int i = 0; i < oneByOne.length; i++) {
+            t.due("31: standing " + i + " by RULE " + rule, behind[i], oneByOne[i]);
         }
         x.restore();
+    }
+
+    /** Where all are, SLEDGES, MINUTES; of each RIDER TIRED, RUNS, WAITED. */
+    private static int[] standing(OneSledgeForTwo x) {
+        int riders = x.status(0);
+        int[] told = new int[4 + 3 * riders];
+        for (int i = 0; i < 4; i++) {
+            told[i] = x.status(1 + i);
+        }
+        for (int i = 0; i < 3 * riders; i++) {
+            told[4 + i] = x.riderOf(i / 3, 3 + i % 3);
+        }
+        return told;
     }
 
     private static void together(Tally t) {
