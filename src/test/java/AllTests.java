@@ -1,6 +1,7 @@
+import java.nio.file.Files;
 import java.nio.file.Path;
 
-/** Runs every test of the project; its first argument is the path of OneSledgeForTwo.java. */
+/** Runs every test of the project; its arguments are the paths of OneSledgeForTwo.java and of README.md. */
 public final class AllTests {
     private static final int MODEL_RUNS = 1200;
 
@@ -9,6 +10,7 @@ public final class AllTests {
 
     public static void main(String[] args) throws Exception {
         Tally t = new Tally();
+        RoomTests.run(t);
         ShelfTests.run(t);
         HillTests.run(t);
         MoveTests.run(t);
@@ -24,6 +26,7 @@ public final class AllTests {
         RefusalTests.run(t);
         ModelTests.run(t, MODEL_RUNS);
         FaceTests.run(t, Path.of(args[0]));
+        ReadmeTests.run(t, Files.readString(Path.of(args[1])));
         System.out.println(t.summary());
         if (t.failures() != 0) {
             System.exit(1);

@@ -23,7 +23,11 @@ final class FaceTests {
     private static final String[] FORBIDDEN = {"\\bthrow\\b", "\\bthrows\\b", "\\btry\\b", "\\bcatch\\b",
         "\\bsynchronized\\b", "\\bassert\\b", "->", "::", "\\bimport\\b", "\\bpackage\\b", "\\bSystem\\.(?!arraycopy)",
         "Exact\\(", "\\bvolatile\\b", "\\bnative\\b", "\\bStrictMath\\b", "\\bRandom\\b", "\\bThread\\b",
-        "\\bprotected\\b", "[^\\x00-\\x7f]"};
+        "\\bprotected\\b", "[^\\x00-\\x7f]", "\" \\+", "\\+ \"", "\\bfloat\\b", "\\bdouble\\b", "\\bObject\\b"};
+    /** What LANGUAGE.md lets the class take of the library, as far as it takes it by a class's name. */
+    private static final Pattern LIBRARY = Pattern.compile("\\b(Math|Integer|Long|Arrays|String|List|System)\\.(\\w+)");
+    private static final Set<String> ALLOWED = Set.of("compare", "max", "min", "abs", "bitCount", "floorDiv", "floorMod",
+        "copyOf", "copyOfRange", "fill", "of", "arraycopy", "MAX_VALUE", "MIN_VALUE");
     private static final int LONGEST_METHOD = 60;
 
     private FaceTests() {
@@ -33,6 +37,8 @@ final class FaceTests {
         face(t);
         constants(t);
         classesInside(t);
+        sizes(t, OneSledgeForTwo.class);
+        library(t, Files.readString(source));
         words(t, Files.readString(source));
         lengths(t, Files.readString(source));
     }
@@ -68,8 +74,6 @@ final class FaceTests {
                 t.holds("face: the constant " + f.getName(), f.getName().equals("NONE") && f.getType() == int.class);
                 t.due("face: it is public static final", f.getModifiers(),
                     Modifier.PUBLIC | Modifier.STATIC | Modifier.FINAL);
-            } else if (Modifier.isStatic(f.getModifiers())) {
-                t.holds("rule 5: final " + f.getName(), Modifier.isFinal(f.getModifiers()));
             }
         }
         t.due("face: NONE", OneSledgeForTwo.NONE, -1);
@@ -81,17 +85,34 @@ final class FaceTests {
         for (Class<?> c : inside) {
             int modifiers = c.getModifiers();
             t.holds("rule 1: " + c.getName(), Modifier.isStatic(modifiers) && !Modifier.isPublic(modifiers));
-            int fields = 0;
-            for (Field f : c.getDeclaredFields()) {
-                fields += Modifier.isStatic(f.getModifiers()) ? 0 : 1;
-            }
-            t.holds("rule 11: fields of " + c.getName(), fields <= 20);
+            sizes(t, c);
             for (Method m : c.getDeclaredMethods()) {
-                t.holds("rule 11: parameters of " + m.getName(), m.getParameterCount() <= 7);
                 for (String method : FACE) {
                     t.holds("rule 1: not the name of a public one", !method.startsWith(m.getName() + " "));
                 }
             }
+        }
+    }
+
+    private static void sizes(Tally t, Class<?> c) {
+        int fields = 0;
+        for (Field f : c.getDeclaredFields()) {
+            boolean fixed = Modifier.isStatic(f.getModifiers());
+            fields += fixed ? 0 : 1;
+            Class<?> of = f.getType().getComponentType();
+            t.holds("rule 5: final, of what is allowed: " + f.getName(), !fixed || Modifier.isFinal(f.getModifiers())
+                && (of == null || Set.of(int.class, long.class, char.class, byte.class).contains(of)));
+        }
+        t.holds("rule 11: fields of " + c.getName(), fields <= 20);
+        for (Method m : c.getDeclaredMethods()) {
+            t.holds("rule 11: parameters of " + m.getName(), m.getParameterCount() <= 7);
+        }
+    }
+
+    private static void library(Tally t, String source) {
+        Matcher m = LIBRARY.matcher(source);
+        while (m.find()) {
+            t.holds("rule 4: " + m.group(), ALLOWED.contains(m.group(2)));
         }
     }
 
